@@ -82,6 +82,10 @@ public final class HardestVows {
     private static final int CONDITION = 4;
 
     private static final int TENTHS = 10;
+    private static final int MOST_TOLD = 99;
+    private static final int USUAL_FALL = 5;
+    private static final int USUAL_RISE = 1;
+    private static final int USUAL_BREAKS = 1;
     private static final int MOST_BELOW = 700;
     private static final int SOFT_YEARS = 100;
     private static final int KEPT_YEARS = 60;
@@ -371,7 +375,8 @@ public final class HardestVows {
     }
 
     public int soft(int below) {
-        if (below < 0 || below > MOST_BELOW) {
+        // nothing is below 0, so 0 needs no paper
+        if (below <= 0 || below > MOST_BELOW) {
             return NONE;
         }
         return paper.firstSoftYear(now, below);
@@ -1015,15 +1020,15 @@ public final class HardestVows {
             behind = at;
             if (at >= length) {
                 kind = AT_END;
-            } else if (isLetter(at)) {
+            } else if (isLetter(tape[at])) {
                 kind = LETTERS;
-                while (isLetter(behind)) {
+                while (behind < length && isLetter(tape[behind])) {
                     behind++;
                 }
-            } else if (isDigit(at)) {
+            } else if (isDigit(tape[at])) {
                 kind = DIGITS;
                 number = 0;
-                while (isDigit(behind)) {
+                while (behind < length && isDigit(tape[behind])) {
                     // beyond the greatest number all are alike, however many digits there are
                     number = Math.min(GREATEST_NUMBER + 1, number * 10 + tape[behind] - '0');
                     behind++;
@@ -1034,12 +1039,12 @@ public final class HardestVows {
             }
         }
 
-        private boolean isLetter(int place) {
-            return place < length && tape[place] >= 'a' && tape[place] <= 'z';
+        private static boolean isLetter(int sign) {
+            return sign >= 'a' && sign <= 'z';
         }
 
-        private boolean isDigit(int place) {
-            return place < length && tape[place] >= '0' && tape[place] <= '9';
+        private static boolean isDigit(int sign) {
+            return sign >= '0' && sign <= '9';
         }
     }
 
@@ -1195,7 +1200,7 @@ public final class HardestVows {
                     return 1;
                 }
                 if (machine.works(law, sum, words)) {
-                    return Math.max(0, Math.min(kind == BREAKS ? TENTHS : 99, machine.told()));
+                    return Math.max(0, Math.min(kind == BREAKS ? TENTHS : MOST_TOLD, machine.told()));
                 }
             }
             return toldWithout(kind, monk, vow);
@@ -1203,10 +1208,10 @@ public final class HardestVows {
 
         private int toldWithout(int kind, int monk, int vow) {
             switch (kind) {
-                case FALLS: return 5;
-                case RISES: return 1;
+                case FALLS: return USUAL_FALL;
+                case RISES: return USUAL_RISE;
                 case SHOWS: return house.hardOf(monk, vow);
-                case BREAKS: return 1;
+                case BREAKS: return USUAL_BREAKS;
                 default: return 0;
             }
         }
@@ -1571,7 +1576,9 @@ public final class HardestVows {
         private int mostFrom(int monk, int taken) {
             int best = allMustHave ? CANT : most[(monk + 1) * SETS + taken];
             for (int vow = 0; vow < VOWS; vow++) {
-                best = Math.max(best, mostWith(monk, taken, vow));
+                if ((taken >> vow & 1) == 0) {
+                    best = Math.max(best, mostWith(monk, taken, vow));
+                }
             }
             return best;
         }
