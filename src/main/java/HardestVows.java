@@ -1185,9 +1185,11 @@ public final class HardestVows {
 
         /** What the last clause of the kind that holds tells; that a clause bars is told as 1. */
         private int told(int kind, int monk, int vow) {
-            int last = law == null ? NONE : law.clauses - 1;
+            if (law == null) {
+                return toldWithout(kind, monk, vow);
+            }
             setWords(monk, vow);
-            for (int clause = last; clause >= 0; clause--) {
+            for (int clause = law.clauses - 1; clause >= 0; clause--) {
                 if (law.marked(clause, KIND) != kind) {
                     continue;
                 }
