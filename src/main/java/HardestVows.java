@@ -87,7 +87,8 @@ public final class HardestVows {
     private static final int USUAL_RISE = 1;
     private static final int USUAL_BREAKS = 1;
     private static final int MOST_BELOW = 700;
-    private static final int SOFT_YEARS = 100;
+    /** The year so many on from now, which is year 0, is the last that is looked at. */
+    private static final int LAST_SOFT_YEAR = 100;
     private static final int KEPT_YEARS = 60;
     private static final long ALL_PARTS = 1000000000000L;
     private static final int MOST_SEED = 1000000;
@@ -1717,7 +1718,7 @@ public final class HardestVows {
 
         int firstSoftYear(Whole now, int below) {
             takeSheet(now);
-            for (int year = 0; year < SOFT_YEARS; year++) {
+            for (int year = 0; year <= LAST_SOFT_YEAR; year++) {
                 chooser.chooseBest(rules, sheet);
                 for (int monk = 0; monk < sheet.monks(); monk++) {
                     takeChosen(monk);

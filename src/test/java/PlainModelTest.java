@@ -935,7 +935,7 @@ public final class PlainModelTest {
                 return -1;
             }
             World p = w.copy();
-            for (int t = 0; t < 100; t++) {
+            for (int t = 0; t <= 100; t++) {
                 int[] row = new Rows(shown(p, p.force), false).best;
                 int sum = 0;
                 for (int m = 0; m < row.length; m++) {

@@ -927,11 +927,15 @@ public final class PromisesTest {
         due("by and by", y.soft(7), 14 * 7);
         due("not in 100", y.soft(6), -1);
         HardestVows z = under("falls 1;rises 0;bars if not vow = 0", 99);
-        due("the last of 100", z.soft(1), 99);
+        due("year 99", z.soft(1), 99);
         due("year 0", z.soft(100), 0);
         HardestVows late = under("falls 1;falls 0 if year = 0;rises 0;bars if not vow = 0", 99);
-        due("the last of 100", late.soft(2), 99);
-        due("behind 100 years", late.soft(1), -1);
+        due("year 99", late.soft(2), 99);
+        due("year 100, the last", late.soft(1), 100);
+        HardestVows later = under("falls 1;falls 0 if year < 2;rises 0;bars if not vow = 0", 99);
+        due("year 100, the last", later.soft(2), 100);
+        due("behind year 100", later.soft(1), -1);
+        softYears();
         HardestVows held = under("falls held * 10;rises 0;bars if vow > 0", 99);
         due("held grows", held.soft(90), 2);
         due("held grows", held.soft(70), 3);
@@ -948,11 +952,24 @@ public final class PromisesTest {
         due("held goes on of the same", ever.soft(70), 1);
         due("held goes on of the same", ever.soft(69), 2);
         due("nothing had is soft", under("bars", 50).soft(1), 0);
-        HardestVows later = under("falls 0;falls 40 if year > 1000 + 1;rises 0;bars if vow > 0", 50);
-        later.terms(0, 999);
-        due("year goes on behind 999", later.soft(50), 4);
+        HardestVows beyond = under("falls 0;falls 40 if year > 1000 + 1;rises 0;bars if vow > 0", 50);
+        beyond.terms(0, 999);
+        due("year goes on behind 999", beyond.soft(50), 4);
         HardestVows change = under("falls 30;rises 0;shows 10;shows 20 if vow = 1 and held > 0;shows 15 if vow = has", 50);
         due("as best tells each year", change.soft(21), 1);
+    }
+
+    /** Soft in one year alone, wherever it lies, and from whatever year it is counted. */
+    private static void softYears() {
+        for (int year = 0; year <= 103; year++) {
+            int due = year <= 100 ? year : -1;
+            HardestVows x = under("bars if year = " + year, 1);
+            due("soft in year " + year, x.soft(1), due);
+            HardestVows late = under("bars if year - 950 = " + year, 1, 99);
+            late.terms(0, 950);
+            due("soft in year 950 + " + year, late.soft(1), due);
+            due("the year stays", late.count(13), 950);
+        }
     }
 
     private static void kept() {
