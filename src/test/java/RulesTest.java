@@ -1,5 +1,6 @@
 import java.io.IOException;
 import java.lang.management.ManagementFactory;
+import java.lang.reflect.Member;
 import java.lang.reflect.Method;
 import java.lang.reflect.Modifier;
 import java.nio.file.Files;
@@ -8,6 +9,7 @@ import java.util.Random;
 import java.util.TreeSet;
 import java.util.regex.Matcher;
 import java.util.regex.Pattern;
+import java.util.stream.Stream;
 
 /** What LANGUAGE.md and the room ask of the class, as far as a test can see it. Run from the project's folder. */
 public final class RulesTest {
@@ -83,6 +85,23 @@ public final class RulesTest {
             }
         }
         must(Modifier.isFinal(HardestVows.class.getModifiers()), "the class is final");
+    }
+
+    /** Each line of the document's face is a member of the class, and the class has no other that is not private. */
+    private static void faceIsTheDocuments() throws IOException {
+        TreeSet<String> due = new TreeSet<>();
+        for (String line : Document.parts().get("The public face").split("\n")) {
+            if (line.startsWith("    public ")) {
+                due.add(line.strip().replaceAll("int \\w+([,)])", "int$1").replaceAll(" = .*;", ";"));
+            }
+        }
+        TreeSet<String> found = new TreeSet<>();
+        Class<?> c = HardestVows.class;
+        Stream.of(c.getDeclaredMethods(), c.getDeclaredFields(), c.getDeclaredConstructors())
+            .flatMap(Stream::of).filter(m -> !Modifier.isPrivate(((Member) m).getModifiers()))
+            .forEach(m -> found.add(m.toString().replaceAll("HardestVows\\.(?=\\w)", "").replace(",", ", ") + ";"));
+        must(due.size() == 39, "the document's face has a constant, a constructor and 37 methods: " + due.size());
+        must(found.equals(due), "the face is the document's " + due + ", not " + found);
     }
 
     private static long bytes() {
@@ -163,6 +182,7 @@ public final class RulesTest {
         words(bare(source));
         methods(source.split("\n"));
         face();
+        faceIsTheDocuments();
         room();
         neverThrows();
         System.out.println(wrong + " rules broken");
